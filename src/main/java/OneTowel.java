@@ -1827,10 +1827,14 @@ public final class OneTowel {
         }
 
         private boolean readSeen() {
-            if (!takeName(true) || !takePatchOf(value)) {
+            if (!takeName(true)) {
                 return false;
             }
-            int p = value;
+            int t = value;
+            if (!takeWhole(0, into.towels.size[t] - 1)) {
+                return false;
+            }
+            int p = into.towels.first[t] + value;
             if (into.towels.isSeen(p)) {
                 return fail(AGAIN);
             }
@@ -1847,10 +1851,14 @@ public final class OneTowel {
                 return false;
             }
             int b = value;
-            if (!takeName(true) || !takePatchOf(value)) {
+            if (!takeName(true)) {
                 return false;
             }
-            into.plan.add(WIPES, b, value, WITHOUT);
+            int t = value;
+            if (!takeWhole(0, into.towels.size[t] - 1)) {
+                return false;
+            }
+            into.plan.add(WIPES, b, into.towels.first[t] + value, WITHOUT);
             return true;
         }
 
@@ -1879,15 +1887,6 @@ public final class OneTowel {
                 return false;
             }
             into.plan.add(SHAKES, value, WITHOUT, WITHOUT);
-            return true;
-        }
-
-        /** One of a towel's patches; the value is its number among all. */
-        private boolean takePatchOf(int t) {
-            if (!takeWhole(0, into.towels.size[t] - 1)) {
-                return false;
-            }
-            value += into.towels.first[t];
             return true;
         }
 
