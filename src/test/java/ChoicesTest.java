@@ -6,10 +6,14 @@ public final class ChoicesTest {
     public static void main(String[] args) {
         sharing();
         sharingInTheWind();
+        sharingOfSix();
+        askedFirst();
+        anotherShoreOrMark();
         wringing();
         wringingForTheWind();
         nextSteps();
         nextOfLikeOnes();
+        nextByTheSecondTowel();
         times();
         sun();
         wind();
@@ -63,6 +67,66 @@ public final class ChoicesTest {
         DUE.good(x, "rule(0, 0) in the wind", x.rule(0, 0), 3);
     }
 
+    /** Six who are wiped one behind another: the first stands longest in the wind. */
+    private static void sharingOfSix() {
+        StringBuilder text = new StringBuilder("shore share 1 wipe 1 wring 0, 1 sun 0 wind 10;"
+            + "towel t patches 1 holds 99 wet 99");
+        for (int b = 0; b < 6; b++) {
+            text.append(";bather ").append((char) ('a' + b)).append(" plain wet 99 cold 0 want 0 size 1");
+        }
+        OneTowel x = Due.told(text.toString());
+        // 99, 90, 81, 73, 66, 60, 54
+        DUE.good(x, "share() of six", x.share(), 54);
+        DUE.good(x, "rule(0, 0) of six", x.rule(0, 0), 54);
+        DUE.good(x, "wrung() of six", x.wrung(), 49);
+        OneTowel first = Due.told(text.toString().replace("wet 99 cold", "wet 0 cold")
+            .replace("bather a plain wet 0", "bather a plain wet 99"));
+        DUE.good(first, "share() of the first of six", first.share(), 54);
+        OneTowel dry = Due.told(CALM + "towel t patches 1 holds 9 wet 0;bather a plain wet 0 cold 0 want 0 size 1");
+        DUE.good(dry, "share() of nothing", dry.share(), 0);
+        DUE.good(dry, "wrung() of nothing", dry.wrung(), 0);
+    }
+
+    private static final String FIRST = CALM + "towel t patches 1 holds 10 wet 10;towel s patches 1 holds 50 wet 0;"
+        + "bather a plain wet 20 cold 0 want 12 size 1;bather b plain wet 80 cold 0 want 0 size 1";
+
+    private static void askedFirst() {
+        DUE.is("shareAt(1) asked first", Due.told(FIRST).shareAt(1), 1);
+        DUE.is("wringing() asked first", Due.told(FIRST).wringing(), 0);
+        DUE.is("wrung() asked first", Due.told(FIRST).wrung(), 40);
+        DUE.is("nextAt(1, 0) asked first", Due.told(FIRST).nextAt(1, 0), 1);
+        DUE.is("nextAt(2, 1) asked first", Due.told(FIRST).nextAt(2, 1), 1);
+        DUE.is("next(3) asked first", Due.told(FIRST).next(3), 1);
+    }
+
+    private static void anotherShoreOrMark() {
+        OneTowel x = Due.told(FIRST);
+        DUE.good(x, "mark()", x.mark(), 0);
+        askedOfFirst(x);
+        DUE.good(x, "wipe(1, 1)", x.wipe(1, 1), 40);
+        DUE.good(x, "share() then", x.share(), 40);
+        DUE.good(x, "next(1) then", x.next(1), 2);
+        DUE.granted(x, "back(0)", x.back(0));
+        askedOfFirst(x);
+        DUE.is("another shore", Due.tell(x, CALM + "towel t patches 1 holds 50 wet 10;"
+            + "bather a plain wet 30 cold 0 want 15 size 1"), 1);
+        DUE.good(x, "share() of another", x.share(), 20);
+        DUE.good(x, "wringing() of another", x.wringing(), 0);
+        DUE.good(x, "wrung() of another", x.wrung(), 15);
+        DUE.good(x, "next(1) of another", x.next(1), 1);
+        DUE.good(x, "next(2) of another", x.next(2), 0);
+    }
+
+    /** By numbers a by s leaves 10, then b by t, which is full, 80; t wrung ahead of all: a by t, b by s leaves 40. */
+    private static void askedOfFirst(OneTowel x) {
+        DUE.good(x, "share()", x.share(), 40);
+        DUE.good(x, "shareAt(0)", x.shareAt(0), 0);
+        DUE.good(x, "wringing()", x.wringing(), 0);
+        DUE.good(x, "wrung()", x.wrung(), 40);
+        DUE.good(x, "next(1)", x.next(1), 1);
+        DUE.good(x, "nextAt(1, 0)", x.nextAt(1, 0), 1);
+    }
+
     private static void wringing() {
         OneTowel x = Due.told(CALM + "towel t patches 1 holds 50 wet 10;towel u patches 1 holds 50 wet 40;"
             + "bather a plain wet 50 cold 0 want 0 size 1;bather b plain wet 60 cold 0 want 0 size 1");
@@ -72,7 +136,8 @@ public final class ChoicesTest {
         DUE.good(x, "wrung()", x.wrung(), 30);
         OneTowel u = Due.told(CALM + "towel t patches 1 holds 50 wet 20;towel u patches 1 holds 50 wet 10;"
             + "bather a plain wet 50 cold 0 want 0 size 1;bather b plain wet 90 cold 0 want 0 size 1");
-        // a by u (30 then), b by t: 35, 55; ahead of b: t 45, u 45 (but a by u: t is like); ahead of a: t 30, 50; u 25, 55
+        // a by u (30 then, 30 left), b by t (55 left); a towel wrung ahead of b: 45 left, by t as by u
+        // ahead of a: by t 25 left, then by u 50; by u 25 left, then by t 55
         DUE.good(u, "wringing() of like ones", u.wringing(), 10);
         DUE.good(u, "wrung() of like ones", u.wrung(), 45);
         OneTowel v = Due.told(CALM + "towel t patches 1 holds 1 wet 0;towel u patches 1 holds 50 wet 10;"
@@ -156,6 +221,25 @@ public final class ChoicesTest {
         steps(longer, 0, 100);
         steps(longer, 0, 0, 100);
         steps(longer, 0, 0, 0, 0);
+    }
+
+    private static void nextByTheSecondTowel() {
+        OneTowel x = Due.told(CALM.replace("wring 0, 0", "wring 0, 1") + "towel t patches 1 holds 9 wet 9;"
+            + "towel s patches 1 holds 50 wet 30;bather a plain wet 40 cold 0 want 20 size 1");
+        steps(x, 1, 0);
+        steps(x, 0, 101, 1);
+        steps(x, 0, 0, 101, 1);
+        OneTowel y = Due.told(CALM + "towel t patches 1 holds 9 wet 9;towel s patches 1 holds 50 wet 30;"
+            + "towel u patches 1 holds 40 wet 40;bather a plain wet 80 cold 0 want 30 size 1");
+        // by s 20 (60, 50), not by u, which is full; u wrung: 40 (40, 40)
+        steps(y, 1, 0);
+        steps(y, 1, 0, 0);
+        // s wrung, by s 40 (40, 40), s wrung, ... takes four; by s, s wrung, by s 30 (30, 30) takes three
+        steps(y, 0, 1, 101, 1);
+        OneTowel wind = Due.told("shore share 1 wipe 0 wring 0, 1 sun 0 wind 50;towel t patches 1 holds 9 wet 0;"
+            + "bather a plain wet 4 cold 0 want 1 size 1;bather b plain wet 4 cold 0 want 1 size 1");
+        steps(wind, 2, 0);
+        steps(wind, 0, 100, 100);
     }
 
     private static void times() {

@@ -57,8 +57,17 @@ final class Due {
         is("led(" + i + ") throws", thrown, true);
     }
 
-    /** A text that has this fault at this place. */
+    /** A text that has this fault at this place, whatever comes behind it. */
     void faulty(String text, int fault, int place) {
+        faultyAlone(text, fault, place);
+        if (place < text.length()) {
+            faultyAlone(text + ";?", fault, place);
+            faultyAlone(text + " 0 0;shakes shore", fault, place);
+            faultyAlone(text + " t 0 0;home 1", fault, place);
+        }
+    }
+
+    private void faultyAlone(String text, int fault, int place) {
         OneTowel x = new OneTowel();
         is("shore of \"" + text + "\"", tell(x, text), OneTowel.NONE);
         is("trouble() of \"" + text + "\"", x.trouble(), 4);

@@ -45,8 +45,8 @@ public final class FaceTest {
         Set<String> got = new TreeSet<>();
         for (Method m : OneTowel.class.getDeclaredMethods()) {
             if (Modifier.isPublic(m.getModifiers())) {
-                String types = String.join(",", Arrays.stream(m.getParameterTypes()).map(Class::getName).toList());
-                got.add(m.getReturnType() + " " + m.getName() + "(" + types + ")");
+                List<String> types = Arrays.stream(m.getParameterTypes()).map(Class::getName).toList();
+                got.add(m.getReturnType() + " " + m.getName() + "(" + String.join(",", types) + ")");
                 boolean throwing = m.getName().equals("led");
                 DUE.is("exceptions told by " + m.getName(), m.getExceptionTypes().length, throwing ? 1 : 0);
                 if (throwing) {
@@ -60,7 +60,8 @@ public final class FaceTest {
         DUE.is("no package", OneTowel.class.getPackageName().isEmpty(), true);
         DUE.is("one constructor", OneTowel.class.getDeclaredConstructors().length, 1);
         Constructor<?> made = OneTowel.class.getDeclaredConstructors()[0];
-        DUE.is("a public one of nothing", Modifier.isPublic(made.getModifiers()) && made.getParameterCount() == 0, true);
+        DUE.is("a public one", Modifier.isPublic(made.getModifiers()), true);
+        DUE.is("of nothing", made.getParameterCount(), 0);
     }
 
     private static void nothingElseIsOpen() {
@@ -107,7 +108,8 @@ public final class FaceTest {
         while (throwing.find()) {
             DUE.is("throws " + throwing.group(1), throwing.group(1).equals("NoSuchElementException"), true);
         }
-        Matcher call = Pattern.compile("\\b(Math|Integer|Long|System|Arrays|String|StringBuilder)\\.(\\w+)").matcher(text);
+        String library = "\\b(Math|Integer|Long|System|Arrays|String|StringBuilder)\\.(\\w+)";
+        Matcher call = Pattern.compile(library).matcher(text);
         while (call.find()) {
             boolean allowed = Set.of("Math.min", "Math.max", "System.arraycopy").contains(call.group());
             DUE.is("calls " + call.group(), allowed, true);
@@ -149,7 +151,8 @@ public final class FaceTest {
         int all = 0;
         for (int i = 0; i < often; i++) {
             x.feed(0x73686f72, 0x65207368, 0x61726520, 0x35302077, 0x69706520);
-            all += x.shore(20) + x.wettest() + x.coldestAt(i % 6) + x.share() + x.wringing() + x.next(3) + x.nextAt(2, 1);
+            all += x.shore(20) + x.wettest() + x.coldestAt(i % 6) + x.share() + x.wringing();
+            all += x.next(3) + x.nextAt(2, 1);
             all += x.fits() + x.fit(i, 1) + x.look() + x.could(1) + x.summer(3, i, 60) + x.sixth(0, 3, i, 60);
             all += x.times(1) + x.sun(0, 1) + x.wind(1) + x.rule(3, 1) + x.bestRule(0) + x.ruleAt(4, 1);
             all += x.judge() + x.late() + x.dryBy(1) + x.water() + x.best(1) + x.bather(1, 1) + x.size(1);

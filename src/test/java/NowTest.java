@@ -166,7 +166,9 @@ public final class NowTest {
         DUE.refused(none, "clock() without", none.clock(), 1);
         DUE.refused(none, "wetOnes() without", none.wetOnes(), 1);
         DUE.is("lost() without", none.lost(), -100000);
-        DUE.is("trouble() of lost() without", none.trouble(), 1);
+        OneTowel fresh = new OneTowel();
+        DUE.is("lost() first of all", fresh.lost(), -100000);
+        DUE.is("trouble() of lost() without", fresh.trouble(), 1);
         DUE.refused(none, "towelOf(0) without", none.towelOf(0), 1);
         DUE.refused(none, "passes(0, 0) without", none.passes(0, 0), 1);
         DUE.refused(none, "best(0) without", none.best(0), 1);

@@ -1,7 +1,8 @@
 /** Promises 24 to 30: orders. */
 public final class OrdersTest {
     private static final Due DUE = new Due("OrdersTest");
-    private static final String STILL = "shore share 50 wipe 1 wring 0, 0 sun 0 wind 0;towel t patches 1 holds 99 wet 0;";
+    private static final String STILL =
+        "shore share 50 wipe 1 wring 0, 0 sun 0 wind 0;towel t patches 1 holds 99 wet 0;";
     private static final String THREE = STILL + "bather a plain wet 20 cold 1 want 0 size 2;"
         + "bather b small wet 40 cold 1 want 0 size 3;bather c plain wet 10 cold 5 want 30 size 1";
 
@@ -12,6 +13,8 @@ public final class OrdersTest {
         likeOnes();
         theLeastPatch();
         nowOn();
+        askedFirst();
+        anotherShoreOrMark();
         wrongOnes();
         DUE.end();
     }
@@ -127,6 +130,33 @@ public final class OrdersTest {
         DUE.good(x, "coldest() again", x.coldest(), 9);
         DUE.good(x, "nothing has happened", x.bather(1, 1), 40);
         DUE.good(x, "no minute has gone", x.clock(), 0);
+    }
+
+    private static void askedFirst() {
+        DUE.is("wettestAt(0) asked first", Due.told(THREE).wettestAt(0), 1);
+        OneTowel y = Due.told(STILL + "bather a plain wet 20 cold 1 want 10 size 1;"
+            + "bather b plain wet 40 cold 5 want 20 size 1");
+        DUE.is("coldestAt(0) asked first", y.coldestAt(0), 1);
+        DUE.is("bestRule(0) asked first", Due.told(THREE).bestRule(0), 2);
+        OneTowel dry = Due.told(STILL + "bather a plain wet 0 cold 1 want 10 size 1");
+        DUE.good(dry, "wettest() of nothing", dry.wettest(), 0);
+        DUE.good(dry, "coldest() of nothing", dry.coldest(), 0);
+        DUE.good(dry, "rule(0, 0) of nothing", dry.rule(0, 0), 0);
+    }
+
+    private static void anotherShoreOrMark() {
+        OneTowel x = Due.told(THREE);
+        DUE.good(x, "mark()", x.mark(), 0);
+        DUE.good(x, "wettest()", x.wettest(), 20);
+        DUE.good(x, "wipe(1, 0)", x.wipe(1, 0), 20);
+        DUE.good(x, "coldest() behind it", x.coldest(), 12);
+        DUE.granted(x, "back(0)", x.back(0));
+        DUE.good(x, "coldest() by the mark", x.coldest(), 9);
+        order(x, "wettest", 1, 0, 2);
+        DUE.is("another shore", Due.tell(x, STILL + "bather a plain wet 9 cold 1 want 0 size 1"), 1);
+        DUE.good(x, "wettest() of another shore", x.wettest(), 5);
+        order(x, "wettest", 0);
+        DUE.good(x, "coldest() of another shore", x.coldest(), 1);
     }
 
     private static void wrongOnes() {

@@ -14,6 +14,9 @@ public final class SeenTest {
         placesOfSome();
         allOrders();
         fromTheBeginning();
+        shoreUponShore();
+        sizesDoNotCount();
+        aPatchOf99();
         wrongOnes();
         DUE.end();
     }
@@ -145,6 +148,52 @@ public final class SeenTest {
         // ab: 10, then of 40 half is left, of that half goes: 10; ba: 20, of 10 half: 5
         DUE.good(windy, "fits() in the wind", windy.fits(), 1);
         DUE.good(windy, "fit(0, 0) in the wind", windy.fit(0, 0), 1);
+    }
+
+    private static void shoreUponShore() {
+        DUE.is("could(0) asked first", Due.told(TWO + ";seen t 0 20").could(0), 2);
+        DUE.is("surely(0) asked first", Due.told(TWO + ";seen t 0 20").surely(0), 1);
+        DUE.is("fit(0, 0) asked first", Due.told(TWO + ";seen t 0 20").fit(0, 0), 1);
+        DUE.is("lookMost() asked first", Due.told(TWO + ";seen t 0 20").lookMost(), 1);
+        OneTowel x = new OneTowel();
+        for (int i = 0; i < 3; i++) {
+            Due.tell(x, TWO);
+            DUE.good(x, "fits() of all", x.fits(), 2);
+            DUE.good(x, "could(0) of all", x.could(0), 3);
+            DUE.good(x, "look() of all", x.look(), 0);
+            DUE.good(x, "lookMost() of all", x.lookMost(), 1);
+            Due.tell(x, TWO + ";seen t 0 20;seen t 1 10");
+            DUE.good(x, "fits() of one", x.fits(), 1);
+            DUE.good(x, "could(0) of one", x.could(0), 2);
+            DUE.good(x, "could(1) of one", x.could(1), 1);
+            DUE.good(x, "surely(0) of one", x.surely(0), 1);
+            DUE.refused(x, "look() of one", x.look(), 6);
+            DUE.refused(x, "lookMost() of one", x.lookMost(), 6);
+            Due.tell(x, TWO + ";seen t 0 1");
+            DUE.good(x, "fits() of none", x.fits(), 0);
+            DUE.good(x, "could(1) of none", x.could(1), 0);
+            DUE.good(x, "surely(1) of none", x.surely(1), -2);
+        }
+    }
+
+    private static void sizesDoNotCount() {
+        OneTowel x = Due.told(TWO.replace("size 1;bather b", "size 9;bather b"));
+        DUE.good(x, "fits() of sizes", x.fits(), 2);
+        DUE.good(x, "fit(0, 0) of sizes", x.fit(0, 0), 0);
+        DUE.good(x, "fit(1, 0) of sizes", x.fit(1, 0), 1);
+    }
+
+    /** The first patch is full and tells nothing; so does the second, which is wetter than all. */
+    private static void aPatchOf99() {
+        OneTowel x = Due.told(CALM + "towel t patches 1 holds 99 wet 99;towel u patches 1 holds 1 wet 1;"
+            + "bather a plain wet 0 cold 0 want 0 size 1;bather b plain wet 0 cold 0 want 0 size 1");
+        for (int i = 0; i < 3; i++) {
+            DUE.good(x, "fits() of full ones", x.fits(), 2);
+            DUE.good(x, "look() of full ones", x.look(), 0);
+            DUE.good(x, "lookMost() of full ones", x.lookMost(), 2);
+            Due.tell(x, CALM + "towel t patches 1 holds 99 wet 99;towel u patches 1 holds 1 wet 1;"
+                + "bather a plain wet 0 cold 0 want 0 size 1;bather b plain wet 0 cold 0 want 0 size 1");
+        }
     }
 
     private static void wrongOnes() {

@@ -9,6 +9,7 @@ public final class ShoreTest {
         feeding();
         refusedNumbers();
         aShoreStays();
+        shoreUponShore();
         rightTexts();
         tokens();
         shoreLine();
@@ -115,6 +116,37 @@ public final class ShoreTest {
         DUE.is("nothing lost", x.lost(), 0);
     }
 
+    /** Nothing of an earlier text is left, however many there were, faulty ones among them. */
+    private static void shoreUponShore() {
+        OneTowel x = new OneTowel();
+        String rich = TOWEL + ";towel u patches 3 holds 9 wet 1;bather b plain wet 9 cold 1 want 1 size 1;"
+            + "bather c dog wet 9 cold 1 want 1 size 1;home b 3;wrings t;wipes c u 2;seen t 0 4;seen u 2 5";
+        for (int i = 0; i < 4; i++) {
+            DUE.is("a rich one", Due.tell(x, rich), 2);
+            int[] due = {50, 1, 2, 3, 50, 0, 2, 5, 2, 2, 2, 0, 0, 0};
+            for (int what = 0; what < due.length; what++) {
+                DUE.is("size(" + what + ") of the rich one", x.size(what), due[what]);
+            }
+            DUE.is("judge() of the rich one", x.judge(), 0);
+            DUE.is("its home", x.bather(0, 5), 3);
+            DUE.granted(x, "shake(0)", x.shake(0));
+            if (i % 2 == 0) {
+                DUE.is("a faulty one", Due.tell(x, rich + ";home c 4;home c 4"), -1);
+            }
+            for (int times = 0; times <= i; times++) {
+                DUE.is("a poor one", Due.tell(x, FULL), 1);
+            }
+            int[] poor = {50, 1, 2, 3, 50, 0, 1, 2, 1, 0, 0, 0, 0, 0};
+            for (int what = 0; what < poor.length; what++) {
+                DUE.is("size(" + what + ") of the poor one", x.size(what), poor[what]);
+            }
+            DUE.is("judge() of the poor one", x.judge(), -2);
+            DUE.is("no home", x.bather(0, 5), -2);
+            DUE.is("not shaken", x.bather(0, 7), 0);
+            DUE.is("all orders fit", x.fits(), 1);
+        }
+    }
+
     private static void rightTexts() {
         DUE.right(FULL, 1);
         DUE.right("   " + FULL + "   ", 1);
@@ -135,6 +167,11 @@ public final class ShoreTest {
         DUE.faulty("    ", 1, 4);
         DUE.faulty("Shore", 1, 0);
         DUE.faulty("  sail", 1, 2);
+        DUE.faulty(FULL.replace("shore", "chore"), 1, 0);
+        DUE.faulty(FULL.replace("shore", "shores"), 1, 0);
+        DUE.faulty(FULL.replace("shore", "shor"), 1, 0);
+        DUE.faulty(FULL.replace("size", "sizs"), 1, FULL.indexOf("size"));
+        DUE.faulty(FULL + ";come b 1", 1, FULL.length() + 1);
         DUE.faulty("7", 1, 0);
         DUE.faulty(";", 1, 0);
         DUE.faulty(FULL + ";", 1, FULL.length() + 1);
@@ -211,6 +248,7 @@ public final class ShoreTest {
         DUE.faulty(FULL + ";home home", 1, at);
         DUE.faulty(FULL + ";home b 241", 4, at + 2);
         DUE.faulty(FULL + ";home b b", 1, at + 2);
+        DUE.faulty(FULL + ";home b 999;home b", 4, at + 2);
         DUE.right(FULL + ";home b 240", 1);
         DUE.faulty(FULL + ";home b 0;home b", 3, at + 9);
         DUE.faulty(FULL + ";home b 0;home b 241", 3, at + 9);

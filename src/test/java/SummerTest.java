@@ -2,7 +2,8 @@
 public final class SummerTest {
     private static final Due DUE = new Due("SummerTest");
     private static final String CALM = "shore share 50 wipe 1 wring 0, 0 sun 0 wind 0;";
-    private static final String ONE = CALM + "towel t patches 1 holds 99 wet 0;bather a plain wet 1 cold 0 want 0 size 1";
+    private static final String ONE = CALM + "towel t patches 1 holds 99 wet 0;"
+        + "bather a plain wet 1 cold 0 want 0 size 1";
     private static final String TWO = CALM + "towel t patches 1 holds 99 wet 0;"
         + "bather a plain wet 1 cold 1 want 0 size 5;bather b small wet 2 cold 1 want 0 size 4";
 

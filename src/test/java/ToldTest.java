@@ -32,7 +32,8 @@ public final class ToldTest {
         DUE.is("led(2) of a wetter one", x.led(2), 2);
         DUE.is("led(3) of a wetter one", x.led(3), 3);
         DUE.nobodyLed(x, 4);
-        OneTowel dry = Due.told(Due.SHORE + ";towel t patches 1 holds 1 wet 1;bather a plain wet 5 cold 1 want 5 size 1");
+        OneTowel dry = Due.told(Due.SHORE + ";towel t patches 1 holds 1 wet 1;"
+            + "bather a plain wet 5 cold 1 want 5 size 1");
         DUE.nobodyLed(dry, 0);
     }
 
