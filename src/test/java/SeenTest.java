@@ -17,6 +17,7 @@ public final class SeenTest {
         shoreUponShore();
         sizesDoNotCount();
         aPatchOf99();
+        aPatchOfNothing();
         wrongOnes();
         DUE.end();
     }
@@ -173,6 +174,15 @@ public final class SeenTest {
             DUE.good(x, "fits() of none", x.fits(), 0);
             DUE.good(x, "could(1) of none", x.could(1), 0);
             DUE.good(x, "surely(1) of none", x.surely(1), -2);
+        }
+    }
+
+    private static void aPatchOfNothing() {
+        OneTowel x = new OneTowel();
+        for (int i = 0; i < 3; i++) {
+            Due.tell(x, CALM + "towel t patches 1 holds 9 wet 0;bather a plain wet 0 cold 0 want 0 size 1");
+            DUE.good(x, "look() at nothing", x.look(), 0);
+            DUE.good(x, "lookMost() at nothing", x.lookMost(), 1);
         }
     }
 

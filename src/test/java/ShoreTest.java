@@ -23,6 +23,7 @@ public final class ShoreTest {
         many();
         earlierPlaceFirst();
         everyPrefix();
+        nothingBehindTheEnd();
         DUE.end();
     }
 
@@ -344,6 +345,17 @@ public final class ShoreTest {
         DUE.faulty(FULL + ";home c 999", 2, FULL.length() + 6);
         DUE.faulty(FULL + ";seen t 9 ?", 4, FULL.length() + 8);
         DUE.faulty(FULL + "?;seen t 9", 1, FULL.length());
+    }
+
+    private static void nothingBehindTheEnd() {
+        String text = FULL + ";bather bb plain wet 9 cold 1 want 1 size 1;shakes bb";
+        OneTowel x = new OneTowel();
+        Due.put(x, text);
+        DUE.is("shore of all", x.shore(text.length()), 2);
+        DUE.is("bb shakes", x.step(0, 1), 1);
+        Due.put(x, text);
+        DUE.is("shore of all but a letter", x.shore(text.length() - 1), 2);
+        DUE.is("b shakes", x.step(0, 1), 0);
     }
 
     /** Of each beginning of a right text: it is right only if it is whole lines with a towel and a bather. */
