@@ -131,7 +131,7 @@ public final class FaceTest {
         DUE.is("bytes of a new object: " + made, made > 0 && made < 60000, true);
         OneTowel dear = dearOne();
         before = threads.getThreadAllocatedBytes(me);
-        use(dear, 20);
+        use(dear, 10);
         use(x, 1);
         made = threads.getThreadAllocatedBytes(me) - before;
         DUE.is("bytes of calls: " + made, made < 1000, true);

@@ -14,8 +14,16 @@ public final class ModelTest {
     private static final List<String> DEAR = List.of("share", "shareAt", "next", "nextAt", "wettest", "wettestAt",
         "coldest", "coldestAt", "look", "lookMost", "fits", "fit", "could", "surely", "summer");
 
+    /** What an object answers beyond so many calls is free. */
+    private static final int CALLS = 512;
+    /** As many calls as another text and a look at what it answers can take. */
+    private static final int CALLS_OF_A_TEXT = 50;
+
     private static final Due DUE = new Due("ModelTest");
     private static final List<Method> METHODS = methods();
+
+    /** Calls of the object that is tested now. */
+    private static int made = 0;
 
     /** A first argument asks for so many times as many runs, other ones than without. */
     public static void main(String[] args) throws ReflectiveOperationException {
@@ -68,6 +76,7 @@ public final class ModelTest {
         DUE.is(call, answer(x, name, args), due);
         DUE.is(call + " trouble()", x.trouble(), model.call("trouble"));
         DUE.is(call + " where()", x.where(), model.call("where"));
+        made += 3;
     }
 
     private static long answer(OneTowel x, String name, int... args) throws ReflectiveOperationException {
@@ -180,10 +189,12 @@ public final class ModelTest {
         boolean small = random.nextInt(4) != 0;
         int dearLeft = small ? 1000 : 4;
         String run = "run " + seed;
-        for (int i = 0; i < 150; i++) {
+        made = 0;
+        for (int i = 0; i < 150 && made <= CALLS - CALLS_OF_A_TEXT; i++) {
             if (random.nextInt(100) == 0 || i == 3) {
                 String text = withSeen(small ? Texts.small(random) : Texts.any(random), random);
                 put(x, model, text);
+                made += (text.length() + 19) / 20;
                 both(x, model, run, "shore", text.length());
                 run = "run " + seed + " \"" + text + "\"";
                 continue;
